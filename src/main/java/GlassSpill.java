@@ -733,7 +733,7 @@ public final class GlassSpill {
         }
 
         void remember(Scene scene) {
-            Scene state = states[(oldest + size) % HISTORY_LENGTH];
+            Scene state = states[Math.floorMod(oldest + size, HISTORY_LENGTH)];
             if (state == null) {
                 return;
             }
@@ -741,7 +741,7 @@ public final class GlassSpill {
             if (size < HISTORY_LENGTH) {
                 size++;
             } else {
-                oldest = (oldest + 1) % HISTORY_LENGTH;
+                oldest = Math.floorMod(oldest + 1, HISTORY_LENGTH);
             }
         }
 
@@ -749,7 +749,7 @@ public final class GlassSpill {
             if (size == 0) {
                 return;
             }
-            Scene state = states[(oldest + size - 1) % HISTORY_LENGTH];
+            Scene state = states[Math.floorMod(oldest + size - 1, HISTORY_LENGTH)];
             if (state == null) {
                 return;
             }

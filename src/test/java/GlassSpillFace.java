@@ -84,6 +84,9 @@ public final class GlassSpillFace {
         for (Class<?> inside : GlassSpill.class.getDeclaredClasses()) {
             due(inside + " is static", Modifier.isStatic(inside.getModifiers()), true);
             due(inside + " is public", Modifier.isPublic(inside.getModifiers()), false);
+            for (Method method : inside.getDeclaredMethods()) {
+                due("name of a public one for " + method, names.contains(method.getName()), false);
+            }
             int fields = 0;
             for (Field field : inside.getDeclaredFields()) {
                 fields += Modifier.isStatic(field.getModifiers()) ? 0 : 1;

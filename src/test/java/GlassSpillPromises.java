@@ -354,6 +354,21 @@ public final class GlassSpillPromises {
         due("the start of the row below is not beside", rows.pixel(23, 5), 1);
         rows.paint(true, 31, 0xf00);
         due("the pixel below is", rows.pixel(23, 5), 2);
+        besideTheCorners();
+    }
+
+    /** At a corner of the picture just two pixels are beside: each of them is the one that makes hair. */
+    private static void besideTheCorners() {
+        int[][] corners = {{0, 1}, {0, 8}, {7, 6}, {7, 15}, {40, 32}, {40, 41}, {47, 39}, {47, 46}};
+        for (int[] corner : corners) {
+            GlassSpill x = allGreen();
+            x.paint(true, corner[0], 0x060);
+            x.paint(true, corner[1], 0xf00);
+            due("hair at " + corner[0] + " by " + corner[1], x.pixel(corner[0], 5), 2);
+            x.paint(true, corner[1], 0x060);
+            x.paint(true, corner[0], 0xf00);
+            due("hair at " + corner[1] + " by " + corner[0], x.pixel(corner[1], 5), 2);
+        }
     }
 
     private static void pixelSpill() {
@@ -479,6 +494,14 @@ public final class GlassSpillPromises {
         due("opaque by 16 is no way", x.count(HOLES), 6);
         x.paint(true, 22, 0x200);
         due("opaque by 14 is a way", x.count(HOLES), 0);
+        x.set(0, 0);
+        x.set(1, 16);
+        x.paint(true, 22, 0x000);
+        due("opaque by 15", x.pixel(22, 3), 15);
+        due("is a way, too", x.count(HOLES), 0);
+        x.paint(true, 22, 0x100);
+        due("and by 16 there is none", x.count(HOLES), 6);
+        x.paint(true, 22, 0x000);
         x.mark(22, true);
         due("a mark is no wall", x.count(HOLES), 0);
         x.set(5, 0);
