@@ -228,17 +228,21 @@ public final class GlassSpill {
         }
         trial.copyFrom(now);
         int best = 0;
-        int leastSpill = Integer.MAX_VALUE;
-        for (int share = 0; share <= FULL; share++) {
-            trial.changeSetting(setting, share);
-            trialView.show(trial);
-            int left = trialView.spillLeft(trial);
+        int leastSpill = spillWith(setting, 0);
+        for (int share = 1; share <= FULL; share++) {
+            int left = spillWith(setting, share);
             if (left < leastSpill) {
                 best = share;
                 leastSpill = left;
             }
         }
         return what == 0 ? best : leastSpill;
+    }
+
+    private int spillWith(int setting, int value) {
+        trial.changeSetting(setting, value);
+        trialView.show(trial);
+        return trialView.spillLeft(trial);
     }
 
     // ---- texts

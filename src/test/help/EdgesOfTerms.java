@@ -435,6 +435,11 @@ final class EdgesOfTerms extends Edges {
         x.paint(true, 20, 0x100);
         due("raw opaque by 16", x.pixel(20, RAW), 16);
         due("is none", x.count(HOLES), 0);
+        x.fill(true, 4, 20, BLACK);
+        due("with a way over such pixels", x.count(HOLES), 0);
+        due("opaque at its end", x.pixel(20, OPAQUE), 15);
+        x.paint(true, 12, 0x100);
+        due("with the way closed", x.count(HOLES), 1);
     }
 
     private static void edgeOfThePicture() {

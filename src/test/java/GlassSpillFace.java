@@ -26,6 +26,7 @@ public final class GlassSpillFace {
     private static final String[] FORBIDDEN = {
         "\\b(throw|throws|try|catch|synchronized|assert|import|package|native|volatile|transient)\\b", "->", "::",
         "\\.\\.\\.", "\\b(protected|float|double|var|Object|System\\.(?!arraycopy)\\w+)\\b", "\"", "Exact\\b",
+        "\\b(Integer|Long|Math)\\.[A-Z]",
         "[^\\x00-\\x7f]",
     };
 
