@@ -456,6 +456,19 @@ final class EdgesOfAnswers extends Edges {
         due("opaque by 2", x.pixel(5, OPAQUE), 2);
         due("for glass that is nearly clear", x.bestShare(GLASS, 0), 4);
         due("what is left of it", x.bestShare(GLASS, 1), 0);
+        x = all(GREEN);
+        x.fill(false, 0, 47, GREEN);
+        x.screen(0x3f0);
+        x.set(NEAR, 0);
+        x.set(FAR, 45);
+        x.mark(47, true);
+        // opaque by 1: (15 + 15 * 15) / 16 is 15, and with 1 or more taken out 14; 2 sixteenths of 15 are the least for that
+        due("opaque by 1", x.pixel(0, OPAQUE), 1);
+        due("for the least share that takes some", x.bestShare(BODY, 0), 2);
+        due("what is left", x.bestShare(BODY, 1), 48 * 14);
+        x.set(BODY, 0);
+        due("for the only one that is glass", x.bestShare(GLASS, 0), 2);
+        due("what is left", x.bestShare(GLASS, 1), 47 * 15 + 14);
     }
 
     private static void bestShareOfTheBack() {
