@@ -228,21 +228,17 @@ public final class GlassSpill {
         }
         trial.copyFrom(now);
         int best = 0;
-        int leastSpill = spillWith(setting, 0);
-        for (int share = 1; share <= FULL; share++) {
-            int left = spillWith(setting, share);
-            if (left < leastSpill) {
+        int leastSpill = 0;
+        for (int share = 0; share <= FULL; share++) {
+            trial.changeSetting(setting, share);
+            trialView.show(trial);
+            int left = trialView.spillLeft(trial);
+            if (share == 0 || left < leastSpill) {
                 best = share;
                 leastSpill = left;
             }
         }
         return what == 0 ? best : leastSpill;
-    }
-
-    private int spillWith(int setting, int value) {
-        trial.changeSetting(setting, value);
-        trialView.show(trial);
-        return trialView.spillLeft(trial);
     }
 
     // ---- texts
@@ -461,7 +457,9 @@ public final class GlassSpill {
             System.arraycopy(other.settings, 0, settings, 0, SETTINGS);
             System.arraycopy(other.front, 0, front, 0, PIXELS);
             System.arraycopy(other.back, 0, back, 0, PIXELS);
-            System.arraycopy(other.glass, 0, glass, 0, PIXELS);
+            for (int i = 0; i < PIXELS; i++) {
+                glass[i] = other.glass[i];
+            }
             screenColour = other.screenColour;
         }
 

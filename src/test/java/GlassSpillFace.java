@@ -95,6 +95,20 @@ public final class GlassSpillFace {
             due(inside + " has more than 20 fields", fields > 20, false);
         }
         due("more than 12 classes", GlassSpill.class.getDeclaredClasses().length > 11, false);
+        parametersAndStatics(GlassSpill.class);
+        for (Class<?> inside : GlassSpill.class.getDeclaredClasses()) {
+            parametersAndStatics(inside);
+        }
+    }
+
+    private static void parametersAndStatics(Class<?> one) {
+        for (Method method : one.getDeclaredMethods()) {
+            due(method + " has more than 7 parameters", method.getParameterCount() > 7, false);
+        }
+        for (Field field : one.getDeclaredFields()) {
+            boolean changes = Modifier.isStatic(field.getModifiers()) && !Modifier.isFinal(field.getModifiers());
+            due(field + " is static and not final", changes, false);
+        }
     }
 
     private static void source() throws IOException {
@@ -103,6 +117,10 @@ public final class GlassSpillFace {
         for (String forbidden : FORBIDDEN) {
             Matcher matcher = Pattern.compile(forbidden).matcher(code);
             due("sign or word that is forbidden", matcher.find() ? matcher.group() : "", "");
+        }
+        Matcher method = Pattern.compile("(?m)^( +)[^\\n;=]+\\([^\\n;=]*\\) \\{\\n(.*\\n)*?\\1\\}$").matcher(code);
+        while (method.find()) {
+            due("more than 60 lines: " + method.group().split("\n")[0].strip(), method.group().lines().count() > 60, false);
         }
     }
 }
